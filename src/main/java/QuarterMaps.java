@@ -614,7 +614,7 @@ public final class QuarterMaps {
         requireText();
         requireMap(map);
         history.remember(map);
-        bits.reflect(map, cellsIn(level), SCRATCH_ROW);
+        bits.reflect(map, 8 * cellsIn(level), SCRATCH_ROW);
         bits.copyRow(SCRATCH_ROW, map);
         return sizeOfRow(map);
     }
@@ -950,16 +950,22 @@ public final class QuarterMaps {
                 // p - by may leave the ints.
                 long source = (long) p - by;
                 if (source >= 0 && source < size && bitAt(row, (int) source) == 1) {
-                    put(into, p >> 3, cell(into, p >> 3) | 1 << (p & 7));
+                    setBit(into, p);
                 }
             }
         }
 
-        void reflect(int row, int length, int into) {
+        void reflect(int row, int size, int into) {
             setCells(into, 0, CELLS, 0);
-            for (int i = 0; i < length; i++) {
-                put(into, length - 1 - i, Integer.reverse(cell(row, i)) >>> 24);
+            for (int p = 0; p < size; p++) {
+                if (bitAt(row, p) == 1) {
+                    setBit(into, size - 1 - p);
+                }
             }
+        }
+
+        private void setBit(int row, int position) {
+            put(row, position >> 3, cell(row, position >> 3) | 1 << (position & 7));
         }
 
         int unlikeBits(int row, int first, int other, int otherFirst, int length) {
@@ -1074,7 +1080,7 @@ public final class QuarterMaps {
             }
             sizes.set(node(l, b), size);
             keys.set(node(l, b), key);
-            kinds.set(node(l, b), kindOfKey(l, b, key));
+            kinds.set(node(l, b), kindOfKey(l, key));
         }
 
         private static int codeOfKind(int kind, int last) {
@@ -1084,19 +1090,22 @@ public final class QuarterMaps {
             return kind == last ? SAME : TREE;
         }
 
-        // The kind of the first block of the level that has this key.
-        private int kindOfKey(int l, int b, int key) {
+        // Blocks of one kind need not lie in the same block: those round them are compared by it, too.
+        private int kindOfKey(int l, int key) {
             if (key == ALL_EMPTY) {
                 return EMPTY;
             }
             if (key == ALL_FULL) {
                 return FULL;
             }
-            int first = 0;
-            while (first < b && keys.get(node(l, first)) != key) {
-                first++;
+            int first = node(l, 0);
+            int blocks = blocksAt(l, level);
+            for (int b = 0; b < blocks; b++) {
+                if (keys.get(first + b) == key) {
+                    return b + 2;
+                }
             }
-            return first + 2;
+            return NEW_KIND;
         }
 
         private void layOut() {
@@ -1235,7 +1244,7 @@ public final class QuarterMaps {
             return size;
         }
 
-        // The size of the block of the level l round the block b, if this had such a kind and size.
+        // The size, and the kind, of the block of the level l round the block b, if this was such a one.
         private int sizeWith(int l, int b, int kind, int size) {
             int last = NONE;
             int sum = 1;
@@ -1250,26 +1259,12 @@ public final class QuarterMaps {
             return sum;
         }
 
-        // Its kind likewise, as far as the blocks beside it tell.
         private int kindWith(int l, int b, int kind) {
             if (kind == NEW_KIND) {
                 return NEW_KIND;
             }
-            int byte0 = 8 * (b & 3);
-            int around = b >> 2;
-            int key = keys.get(node(l, around)) & ~(255 << byte0) | kind << byte0;
-            if (key == ALL_EMPTY) {
-                return EMPTY;
-            }
-            if (key == ALL_FULL) {
-                return FULL;
-            }
-            for (int beside = around & ~3; beside <= (around | 3) && beside < blocksAt(l, level); beside++) {
-                if (beside != around && keys.get(node(l, beside)) == key) {
-                    return kinds.get(node(l, beside));
-                }
-            }
-            return NEW_KIND;
+            int shift = 8 * (b & 3);
+            return kindOfKey(l, keys.get(node(l, b >> 2)) & ~(255 << shift) | kind << shift);
         }
 
         // Goes one level down with each call of itself, and no further than to the level 0.

@@ -1,6 +1,6 @@
 /** Promises 16 to 26: the bytes of trees, and what they tell. */
 final class TreeBytesTest {
-    // Quarters of a: a tree, the same again, empty, a tree with a twin beside an older tree.
+    // Quarters of a: a tree, the same again, empty, and a tree with a code 3 of its own.
     private static final String TEXT = "level 2;map a;fill a 0 2;fill a 8 15;fill a 32 34;fill a 40 47"
         + ";fill a 96 96;fill a 105 105;fill a 112 112;fill a 120 120;map b;fill b 0 127;map c;fill c 64 95";
 
@@ -19,7 +19,7 @@ final class TreeBytesTest {
         Checks.finish();
     }
 
-    // The head of a: 2, 3, 0, 2; behind it 2, 1, 0, 0 and 7; then 2, 2, 2, 3 with 1, 2, 1.
+    // The codes of a: 2, 3, 0, 2; behind them 2, 1, 0, 0 with 7; then 2, 2, 2, 3 with 1, 2, 1.
     private static void bytes(QuarterMaps x) {
         Checks.due("tree of a", "142 6 7 234 1 2 1", () -> Checks.treeOf(x, 0));
         Checks.due("tree of b", "85", () -> Checks.treeOf(x, 1));
