@@ -541,7 +541,7 @@ public final class QuarterMaps {
         requireMap(map);
         tree.measure(map, level);
         text.clear();
-        tree.spell(text, level, 0);
+        tree.spell(text);
         return text.length();
     }
 
@@ -1052,7 +1052,6 @@ public final class QuarterMaps {
                     measureBlock(l, b);
                 }
             }
-            codes.set(node(level, 0), NONE);
             layOut();
         }
 
@@ -1267,17 +1266,21 @@ public final class QuarterMaps {
             return kindOfKey(l, keys.get(node(l, b >> 2)) & ~(255 << shift) | kind << shift);
         }
 
+        void spell(Bytes text) {
+            spellBlock(this, text, level, 0);
+        }
+
         // Goes one level down with each call of itself, and no further than to the level 0.
-        void spell(Bytes text, int l, int b) {
+        private static void spellBlock(Tree tree, Bytes text, int l, int b) {
             if (l <= 0) {
-                text.addHex(content.get(starts.get(node(0, b))));
+                text.addHex(tree.content.get(tree.startOf(0, b)));
                 return;
             }
             text.add('(');
             for (int quarter = 4 * b; quarter < 4 * b + 4; quarter++) {
-                int code = codes.get(node(l - 1, quarter));
+                int code = tree.codes.get(node(l - 1, quarter));
                 if (code == TREE) {
-                    spell(text, l - 1, quarter);
+                    spellBlock(tree, text, l - 1, quarter);
                 } else {
                     text.add(code == EMPTY ? '-' : code == FULL ? '+' : '=');
                 }

@@ -116,6 +116,9 @@ final class ChangesTest {
         Checks.due("bits", "00000000111111110000000000000000", () -> Checks.bitsOf(x, 0, 0, 31));
         x.shift(0, -10);
         Checks.due("bits", "11111100000000000000000000000000", () -> Checks.bitsOf(x, 0, 0, 31));
+        QuarterMaps ends = Checks.loaded("level 1;map a;fill a 0 0;fill a 31 31");
+        Checks.due("no bit comes from beyond an end", 1, () -> ends.shift(0, 1));
+        Checks.due("bits", "01000000000000000000000000000000", () -> Checks.bitsOf(ends, 0, 0, 31));
         Checks.due("map", Checks.INDEX, () -> x.shift(1, 0));
         Checks.due("map", Checks.INDEX, () -> x.shift(-1, 0));
         Checks.due("no wrong call is a change", 2, () -> x.undoable());

@@ -62,6 +62,21 @@ final class InputTest {
         Checks.due("clear and flip", "00011110",
             () -> Checks.bitsOf(Checks.loaded("level 1;map a;fill a 0 7;clear a 0 4;flip a 3 7;flip a 5 6;flip a 5 5"
                 + ";fill a 5 5;flip a 7 7;clear a 7 7"), 0, 0, 7));
+        Checks.due("fill of what is full in part", "00011111", () ->
+            Checks.bitsOf(Checks.loaded("level 1;map zaz;fill zaz 3 5;fill zaz 4 7"), 0, 0, 7));
+        Checks.due("bytes behind the text are none of it", 1, () -> {
+            Checks.put(x, "level 12");
+            return x.load(7) + x.count(1);
+        });
+        Checks.due("bytes behind the text are none of it", 2, () -> {
+            Checks.put(x, "level 2;map azz");
+            return x.load(14) + x.find(Checks.put(x, "az")) + 1;
+        });
+        Checks.due("bytes behind the text are none of it", Checks.ARGUMENT, () -> {
+            Checks.put(x, "level 2;map a");
+            return x.load(12);
+        });
+        Checks.due("the error is at the end of the text", 12, () -> x.errorPosition());
         Checks.due("or leaves the second map", "01110111 00110011",
             () -> {
                 QuarterMaps y = Checks.loaded("level 1;map a;map b;fill a 1 1;fill a 5 5;fill b 2 3;fill b 6 7;or a b");
@@ -72,10 +87,11 @@ final class InputTest {
     }
 
     private static void loadReplaces() {
-        QuarterMaps x = Checks.loaded("level 2;map a;map b;fill b 0 3");
+        QuarterMaps x = Checks.loaded("level 2;map a;map b;fill b 0 3;fill a 0 127");
         x.fill(0, 0, 5, 1);
+        x.save(0);
         x.save(1);
-        Checks.due("textByte ahead of load", 3, () -> x.writeBits(1, 2, 4));
+        Checks.due("writeBits ahead of load", 3, () -> x.writeBits(1, 2, 4));
         int n = Checks.put(x, "level 1;map c");
         Checks.due("parse fails", Checks.ARGUMENT, () -> x.load(n - 1));
         Checks.due("a change stays undoable behind a wrong text", 1, () -> x.undoable());
@@ -86,6 +102,7 @@ final class InputTest {
         Checks.due("level", 1, () -> x.count(1));
         Checks.due("the map is empty", 0, () -> x.ones(0, 0, 31));
         Checks.due("nothing can be undone", 0, () -> x.undoable());
+        Checks.due("nothing is saved", Checks.STATE, () -> x.restore(0));
         Checks.due("nothing is saved", Checks.STATE, () -> x.restore(1));
         Checks.due("the text stays", (int) '0', () -> x.textByte(2));
         Checks.put(x, "level");

@@ -158,10 +158,11 @@ final class ModelTest {
     // ---- trees and texts
 
     private void put(List<Integer> bytes) {
+        int behind = new int[] {' ', 'a', '1', ';', 0}[below(5)];
         for (int first = 0; first < bytes.size(); first += 20) {
             Object[] words = {0, 0, 0, 0, 0};
             for (int i = 0; i < 20; i++) {
-                int value = first + i < bytes.size() ? bytes.get(first + i) : 32;
+                int value = first + i < bytes.size() ? bytes.get(first + i) : behind;
                 words[i / 4] = (Integer) words[i / 4] << 8 | value & 255;
             }
             due("append", words);

@@ -51,6 +51,12 @@ final class WouldBeTest {
         Checks.due("of all", 40, () -> x.bestFlip(0, 0, 127));
         Checks.due("ahead of it", 1, () -> x.bestFlip(0, 0, 39));
         Checks.due("behind it", 41, () -> x.bestFlip(0, 41, 127));
+        Checks.due("the last one", 40, () -> x.bestFlip(0, 9, 40));
+        Checks.due("the tree is that of the map", 1, () -> {
+            QuarterMaps two = Checks.loaded("level 1;map a;fill a 3 3;map b;fill b 1 1");
+            two.bytes(0);
+            return two.bestFlip(1, 0, 31);
+        });
         Checks.due("of one", 127, () -> x.bestFlip(0, 127, 127));
         Checks.due("the first of the same", 9, () -> x.bestFlip(0, 9, 31));
         Checks.due("turned", Checks.INDEX, () -> x.bestFlip(0, 5, 4));
