@@ -13,6 +13,8 @@ final class ChangesTest {
         read();
         undo();
         aChangeWithoutDifference();
+        theLatestEight();
+        undoBehindLoadAndRestore();
         save();
         withoutText();
         Checks.finish();
@@ -204,12 +206,107 @@ final class ChangesTest {
     }
 
     private static void aChangeWithoutDifference() {
+        QuarterMaps x = Checks.loaded("level 1;map a;fill a 12 19");
+        String bits = Checks.bitsOf(x, 0, 0, 31);
+        Checks.due("fill of such bits", 0, () -> x.fill(0, 14, 15, 1));
+        Checks.due("fill of such bits", 0, () -> x.fill(0, 0, 11, 0));
+        Checks.due("shift by nothing", 0, () -> x.shift(0, 0));
+        Checks.due("copyBlock of the same", 3, () -> x.copyBlock(0, 0, 0, 3));
+        Checks.due("combine with itself", 8, () -> x.combine(1, 0, 0, 0));
+        Checks.due("mirror of what is the same then", 3, () -> x.mirror(0));
+        Checks.due("read of its own tree", 8, () -> x.read(0, Checks.put(x, 40, 240, 15)));
+        Checks.due("each is a change", 7, () -> x.undoable());
+        Checks.due("flip of one", 0, () -> x.flip(0, 12, 12));
+        Checks.due("eight", 8, () -> x.undoable());
+        for (int left = 7; left >= 0; left--) {
+            int due = left;
+            Checks.due("undo", due, () -> x.undo());
+            Checks.due("the bits", bits, () -> Checks.bitsOf(x, 0, 0, 31));
+        }
+        Checks.due("undo of nothing", Checks.STATE, () -> x.undo());
+    }
+
+    /** However many changes were made and undone, the latest eight are kept, each with its own map. */
+    private static void theLatestEight() {
+        for (int changes = 0; changes <= 30; changes++) {
+            for (int undone = 0; undone <= Math.min(8, changes); undone += 2) {
+                int first = changes;
+                int back = undone;
+                QuarterMaps x = Checks.loaded("level 1;map a;map b;map c");
+                String[] states = new String[60];
+                int at = 0;
+                states[0] = bitsOfThree(x);
+                for (int i = 0; i < first; i++) {
+                    x.flip(i % 3, i % 32, i % 32);
+                    at++;
+                    states[at] = bitsOfThree(x);
+                }
+                for (int i = 0; i < back; i++) {
+                    x.undo();
+                    at--;
+                    String due = states[at];
+                    Checks.due("undone", due, () -> bitsOfThree(x));
+                }
+                // What was undone is no change any more, so the next one takes its place.
+                x.fill(1, 0, 31, 1);
+                at++;
+                int kept = Math.min(8, Math.min(8, first) - back + 1);
+                Checks.due("kept of " + first + " less " + back + " and one", kept, () -> x.undoable());
+                for (int left = kept - 1; left >= 0; left--) {
+                    int due = left;
+                    at--;
+                    String bits = states[at];
+                    Checks.due("undo", due, () -> x.undo());
+                    Checks.due("the bits then", bits, () -> bitsOfThree(x));
+                }
+                Checks.due("undo of nothing", Checks.STATE, () -> x.undo());
+            }
+        }
+    }
+
+    private static String bitsOfThree(QuarterMaps x) {
+        StringBuilder bits = new StringBuilder();
+        for (int map = 0; map < 3; map++) {
+            bits.append(x.ones(map, 0, 31)).append(' ').append(x.select(map, 0)).append(' ');
+        }
+        return bits.toString();
+    }
+
+    /** Load and restore end what can be undone only if they succeed; then eight are kept again. */
+    private static void undoBehindLoadAndRestore() {
         QuarterMaps x = one();
-        x.fill(0, 4, 5, 1);
-        x.shift(0, 0);
-        x.copyBlock(0, 0, 2, 3);
-        x.combine(1, 0, 0, 0);
-        Checks.due("each is a change", 4, () -> x.undoable());
+        for (int i = 0; i < 9; i++) {
+            x.flip(0, i, i);
+        }
+        Checks.due("a wrong text", Checks.ARGUMENT, () -> x.load(Checks.put(x, "level 1;map")));
+        Checks.due("no such text", Checks.INDEX, () -> x.load(1));
+        Checks.due("nothing saved", Checks.STATE, () -> x.restore(0));
+        Checks.due("no such slot", Checks.INDEX, () -> x.restore(2));
+        Checks.due("eight", 8, () -> x.undoable());
+        Checks.due("undo", 7, () -> x.undo());
+        x.save(1);
+        Checks.due("save is no change", 7, () -> x.undoable());
+        Checks.due("undo", 6, () -> x.undo());
+        x.restore(1);
+        Checks.due("none behind restore", 0, () -> x.undoable());
+        Checks.due("undo", Checks.STATE, () -> x.undo());
+        String restored = Checks.bitsOf(x, 0, 0, 31);
+        for (int i = 0; i < 9; i++) {
+            x.flip(0, 20 + i, 20 + i);
+            Checks.due("kept", Math.min(8, i + 1), () -> x.undoable());
+        }
+        for (int left = 7; left >= 0; left--) {
+            int due = left;
+            Checks.due("undo", due, () -> x.undo());
+        }
+        x.flip(0, 20, 20);
+        Checks.due("all but the first one undone", restored, () -> Checks.bitsOf(x, 0, 0, 31));
+        x.load(Checks.put(x, "level 1;map a"));
+        Checks.due("none behind load", 0, () -> x.undoable());
+        Checks.due("undo", Checks.STATE, () -> x.undo());
+        x.fill(0, 0, 0, 1);
+        Checks.due("undo", 0, () -> x.undo());
+        Checks.due("the map is empty again", 0, () -> x.ones(0, 0, 31));
     }
 
     private static void save() {
@@ -237,6 +334,36 @@ final class ChangesTest {
         Checks.due("in place of what was saved", 6, () -> x.save(0));
         x.fill(1, 0, 31, 0);
         Checks.due("restored", 6, () -> x.restore(0));
+        Checks.due("the slots are apart", "32 8 2 4", () -> {
+            QuarterMaps y = Checks.loaded("level 1;map a;map b");
+            y.fill(0, 0, 31, 1);
+            y.fill(1, 0, 7, 1);
+            y.save(1);
+            y.fill(0, 2, 31, 0);
+            y.fill(1, 4, 7, 0);
+            y.save(0);
+            y.restore(1);
+            String first = y.ones(0, 0, 31) + " " + y.ones(1, 0, 31);
+            y.restore(0);
+            return first + " " + y.ones(0, 0, 31) + " " + y.ones(1, 0, 31);
+        });
+        Checks.due("all six maps are saved", "32 31 30 29 28 27", () -> {
+            QuarterMaps y = Checks.loaded("level 1;map a;map b;map c;map d;map e;map f");
+            StringBuilder ones = new StringBuilder();
+            for (int map = 0; map < 6; map++) {
+                y.fill(map, map, 31, 1);
+            }
+            y.save(0);
+            y.save(1);
+            for (int map = 0; map < 6; map++) {
+                y.shift(map, LEAST);
+            }
+            y.restore(1);
+            for (int map = 0; map < 6; map++) {
+                ones.append(map == 0 ? "" : " ").append(y.ones(map, 0, 31));
+            }
+            return ones;
+        });
         for (int slot : new int[] {-1, 2, LEAST, MOST}) {
             Checks.due("save in slot " + slot, Checks.INDEX, () -> x.save(slot));
             Checks.due("restore of slot " + slot, Checks.INDEX, () -> x.restore(slot));

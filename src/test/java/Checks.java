@@ -108,4 +108,19 @@ final class Checks {
         }
         return bytes.toString();
     }
+
+    /** A tree of the level 4 in which each block is told: no leaf is that of the leaf ahead of it. */
+    static int[] fullTree() {
+        int[] tree = new int[341];
+        int length = 0;
+        for (int i = 0; i < 256; i++) {
+            for (int heads = i == 0 ? 4 : Math.min(4, Integer.numberOfTrailingZeros(i) / 2); heads > 0; heads--) {
+                tree[length] = 170;
+                length++;
+            }
+            tree[length] = 1 + i * 101 % 254;
+            length++;
+        }
+        return tree;
+    }
 }

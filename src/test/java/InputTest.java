@@ -10,6 +10,7 @@ final class InputTest {
         nameErrors();
         treeErrors();
         find();
+        findByEachLetter();
         checks();
         Checks.finish();
     }
@@ -82,11 +83,40 @@ final class InputTest {
                 QuarterMaps y = Checks.loaded("level 1;map a;map b;fill a 1 1;fill a 5 5;fill b 2 3;fill b 6 7;or a b");
                 return Checks.bitsOf(y, 0, 0, 7) + " " + Checks.bitsOf(y, 1, 0, 7);
             });
+        Checks.due("or of the last two of six", "0 0 0 0 3 2",
+            () -> onesOf(Checks.loaded("level 1;map a;map b;map c;map d;map e;map f;fill e 3 4;fill f 4 5;or e f")));
+        Checks.due("or of the last and the first one", "2 0 0 0 0 4",
+            () -> onesOf(Checks.loaded("level 1;map a;map b;map c;map d;map e;map f;fill a 0 1;fill f 4 5;or f a")));
+        Checks.due("each line has its own map", "1 2 3 4 5 6", () -> onesOf(Checks.loaded("level 1;map a;map b;map c"
+            + ";map d;map e;map f;fill a 9 9;flip b 9 10;tree c 8 7;fill d 0 31;clear d 4 31;or e d;fill e 7 7"
+            + ";or f e;flip f 31 31")));
         Checks.due("a tree line makes the map anew", "10 248 7",
             () -> Checks.treeOf(Checks.loaded("level 1;map a;fill a 20 31;tree a 10 248 007;or a a"), 0));
     }
 
+    private static String onesOf(QuarterMaps x) {
+        StringBuilder ones = new StringBuilder();
+        for (int map = 0; map < x.count(0); map++) {
+            ones.append(map == 0 ? "" : " ").append(x.ones(map, 0, 31));
+        }
+        return ones.toString();
+    }
+
     private static void loadReplaces() {
+        QuarterMaps same = Checks.loaded("level 1;map a;map b;map c;fill a 0 31;fill b 0 31;fill c 0 31");
+        Checks.due("all maps are new ones", 3, () -> same.load(Checks.put(same, "level 1;map a;map b;map c")));
+        Checks.due("they are empty", "0 0 0", () -> onesOf(same));
+        same.fill(1, 4, 5, 1);
+        Checks.due("a wrong text", Checks.ARGUMENT,
+            () -> same.load(Checks.put(same, "level 1;map a;map b;map c;fill a 0 31;fill b 0 31;fill c 0 32")));
+        Checks.due("the maps stay", "0 2 0", () -> onesOf(same));
+        Checks.due("the names stay", 2, () -> same.find(Checks.put(same, "c")));
+        Checks.due("a wrong text", Checks.ARGUMENT, () -> same.load(Checks.put(same, "level 2;map zz;map c;")));
+        Checks.due("the names stay", "-1 2", () -> same.find(Checks.put(same, "zz")) + " "
+            + same.find(Checks.put(same, "c")));
+        Checks.due("the level stays", 1, () -> same.count(1));
+        Checks.due("names are replaced", "1 -1", () -> same.load(Checks.put(same, "level 1;map zz")) + " "
+            + same.find(Checks.put(same, "c")));
         QuarterMaps x = Checks.loaded("level 2;map a;map b;fill b 0 3;fill a 0 127");
         x.fill(0, 0, 5, 1);
         x.save(0);
@@ -236,6 +266,31 @@ final class InputTest {
         Checks.put(fresh, "ab");
         Checks.due("find without text", Checks.STATE, () -> fresh.find(99));
         Checks.due("the buffer stays", 20, () -> fresh.buffered());
+    }
+
+    /** Names are told apart by each of their letters, and by how many they are. */
+    private static void findByEachLetter() {
+        for (String name : new String[] {"a", "z", "q", "aa", "zz", "aq", "map", "level", "aaaaaa", "zzzzzz", "qpqpqp"}) {
+            for (int at = 0; at < name.length(); at++) {
+                QuarterMaps x = Checks.loaded("level 1;map " + name);
+                for (char letter = 'a'; letter <= 'z'; letter++) {
+                    String asked = name.substring(0, at) + letter + name.substring(at + 1);
+                    Checks.due("find " + asked + " among " + name, asked.equals(name) ? 0 : -1,
+                        () -> x.find(Checks.put(x, asked)));
+                    String inserted = name.substring(0, at) + letter + name.substring(at);
+                    Checks.due("find " + inserted + " among " + name, -1, () -> x.find(Checks.put(x, inserted)));
+                }
+                String shorter = name.substring(0, at) + name.substring(at + 1);
+                Checks.due("find " + shorter + " among " + name, -1, () -> x.find(Checks.put(x, shorter)));
+            }
+        }
+        QuarterMaps six = Checks.loaded("level 1;map baaaaa;map abaaaa;map aabaaa;map aaabaa;map aaaaba;map aaaaab");
+        for (int map = 0; map < 6; map++) {
+            int want = map;
+            String name = "aaaaa".substring(0, map) + "b" + "aaaaa".substring(map);
+            Checks.due("find " + name, want, () -> six.find(Checks.put(six, name)));
+        }
+        Checks.due("find aaaaaa", -1, () -> six.find(Checks.put(six, "aaaaaa")));
     }
 
     private static void checks() {

@@ -20,17 +20,15 @@ final class TextsTest {
         Checks.due("text", "02 56 fe", () -> Checks.writtenText(x, 8));
         Checks.due("writeBytes", Checks.INDEX, () -> x.writeBytes(3));
         Checks.due("writeBytes", Checks.INDEX, () -> x.writeBytes(-1));
+        QuarterMaps digits = Checks.loaded("level 2;map a;tree a 170 170 1 35 69 103 170 137 171 205 239"
+            + " 170 16 50 84 118 170 152 186 220 254");
+        Checks.due("each digit", 62, () -> digits.writeBytes(0));
+        Checks.due("text", "aa aa 01 23 45 67 aa 89 ab cd ef aa 10 32 54 76 aa 98 ba dc fe",
+            () -> Checks.writtenText(digits, 62));
+        Checks.due("each digit", 42, () -> digits.writeTree(0));
+        Checks.due("text", "((01234567)(89abcdef)(10325476)(98badcfe))", () -> Checks.writtenText(digits, 42));
         QuarterMaps most = Checks.loaded("level 4;map a");
-        int[] tree = new int[341];
-        int length = 0;
-        for (int i = 0; i < 256; i++) {
-            for (int heads = Math.min(4, Integer.numberOfTrailingZeros(i) / 2); heads > 0; heads--) {
-                tree[length] = 170;
-                length++;
-            }
-            tree[length] = 1 + i * 101 % 254;
-            length++;
-        }
+        int[] tree = Checks.fullTree();
         most.read(0, Checks.put(most, tree));
         Checks.due("the longest text", 1022, () -> most.writeBytes(0));
         Checks.due("its start", "aa aa aa aa 01", () -> Checks.writtenText(most, 1022).substring(0, 14));

@@ -33,28 +33,15 @@ final class TreeBytesTest {
         Checks.due("byteAt", Checks.INDEX, () -> x.byteAt(3, 0));
         Checks.due("byteAt", Checks.INDEX, () -> x.byteAt(-1, 0));
         Checks.due("an empty map has a head", "0", () -> Checks.treeOf(Checks.loaded("level 4;map a"), 0));
+        Checks.due("a leaf of 254, and a full one behind an empty one", "10 2 254 4",
+            () -> Checks.treeOf(Checks.loaded("level 2;map a;fill a 1 7;fill a 40 47"), 0));
         QuarterMaps most = Checks.loaded("level 4;map a");
-        int[] tree = fullTree();
+        int[] tree = Checks.fullTree();
         most.read(0, Checks.put(most, tree));
         Checks.due("as many bytes as can be", 341, () -> most.bytes(0));
         Checks.due("the first leaf", 1, () -> most.byteAt(0, 4));
         Checks.due("the last leaf", tree[340], () -> most.byteAt(0, 340));
         Checks.due("none behind it", Checks.INDEX, () -> most.byteAt(0, 341));
-    }
-
-    // A tree in which each block is told: no leaf is that of the leaf ahead of it.
-    private static int[] fullTree() {
-        int[] tree = new int[341];
-        int length = 0;
-        for (int i = 0; i < 256; i++) {
-            for (int heads = i == 0 ? 4 : Math.min(4, Integer.numberOfTrailingZeros(i) / 2); heads > 0; heads--) {
-                tree[length] = 170;
-                length++;
-            }
-            tree[length] = 1 + i * 101 % 254;
-            length++;
-        }
-        return tree;
     }
 
     private static void parts(QuarterMaps x) {

@@ -40,6 +40,13 @@ final class WouldBeTest {
         Checks.due("the other way", 4, () -> cousins.bytesIf(0, 1));
         Checks.due("the best one", 1, () -> cousins.bestFlip(0, 1, 511));
         Checks.due("the best one", 129, () -> cousins.bestFlip(0, 2, 511));
+        Checks.due("the first call of all", 1, () -> Checks.loaded("level 1;map a;fill a 3 3").bytesIf(0, 3));
+        Checks.due("the tree is that of the map", "2 3 2 1", () -> {
+            QuarterMaps two = Checks.loaded("level 1;map a;fill a 3 3;map b");
+            String before = two.bytesIf(1, 3) + " " + two.bytesIf(0, 8);
+            two.fill(0, 9, 9, 1);
+            return before + " " + two.bytesIf(0, 3) + " " + (two.bytesIf(0, 9) + two.bytesIf(1, 9) - 3);
+        });
         Checks.due("position", Checks.INDEX, () -> deep.bytesIf(0, 2048));
         Checks.due("position", Checks.INDEX, () -> deep.bytesIf(0, -1));
         Checks.due("map", Checks.INDEX, () -> deep.bytesIf(1, 0));
