@@ -410,7 +410,8 @@ public final class QuarterMaps {
         requireLevel(level);
         int length = cellsIn(level);
         int found = 0;
-        for (int first = 0; first < cellsIn(this.level); first += length) {
+        for (int block = 0; block < blocksAt(level, this.level); block++) {
+            int first = block * length;
             if (bits.unlikeBits(map, first, other, first, length) == 0) {
                 found++;
             }
